@@ -785,7 +785,6 @@ public final class SetAgain {
                     return stack[0];
                 } else if (sign == ';') {
                     passedBy = false;
-                    top = 0;
                 } else if (sign == '?' && !passedBy) {
                     passedBy = stack[0] == 0;
                     top = 0;
@@ -1042,7 +1041,7 @@ public final class SetAgain {
         private final int[] weight = new int[SETTINGS];
         private final boolean[] wanted = new boolean[SETTINGS];
         private final int[] ones = new int[SITTERS];
-        // All losses of each group of those that sit at each setting, and the least of them.
+        // All losses of each group of those that sit at each setting, and the least of them; of none always 0.
         private final int[] sums = new int[(1 << SITTERS) * SETTINGS];
         private final int[] leasts = new int[1 << SITTERS];
         private final int[] group = new int[CHAIRS];
@@ -1122,9 +1121,6 @@ public final class SetAgain {
             sumGroups(part);
             found = false;
             free = chairs;
-            for (int c = 0; c < CHAIRS; c++) {
-                group[c] = 0;
-            }
             part(0);
             return sitter == -1 ? least : chairOf(sitter);
         }
@@ -1139,18 +1135,20 @@ public final class SetAgain {
             }
         }
 
+        /** Each group is a lesser one and its last sitter, so that the lesser is always summed already. */
         private void sumGroups(int part) {
-            leasts[0] = 0;
-            for (int v = 0; v <= TOP; v++) {
-                sums[v] = 0;
-            }
-            for (int mask = 1; mask < 1 << sitting; mask++) {
-                int one = ones[Integer.numberOfTrailingZeros(mask)];
-                int at = mask * SETTINGS, rest = (mask & mask - 1) * SETTINGS;
-                for (int v = 0; v <= TOP; v++) {
-                    sums[at + v] = sums[rest + v] + week.times[one] * chair.lossAt(one, part, v);
-                    leasts[mask] = v == 0 ? sums[at] : Math.min(leasts[mask], sums[at + v]);
+            for (int i = 0; i < sitting; i++) {
+                for (int mask = 1 << i; mask < 2 << i; mask++) {
+                    sumGroup(part, mask, ones[i], mask - (1 << i));
                 }
+            }
+        }
+
+        private void sumGroup(int part, int mask, int last, int lesser) {
+            int at = mask * SETTINGS, below = lesser * SETTINGS;
+            for (int v = 0; v <= TOP; v++) {
+                sums[at + v] = sums[below + v] + week.times[last] * chair.lossAt(last, part, v);
+                leasts[mask] = v == 0 ? sums[at] : Math.min(leasts[mask], sums[at + v]);
             }
         }
 
@@ -1568,7 +1566,6 @@ public final class SetAgain {
         void takesDesk(int number) {
             sort = number < 0 ? EMPTY : DESK;
             desk = number;
-            length = 0;
         }
 
         void takesRow(int ofSort, int n) {

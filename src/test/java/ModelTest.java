@@ -132,7 +132,7 @@ public final class ModelTest {
             case 5 -> due("once(" + s + ", " + p + ", " + w + ")", x.once(s, p, w), m.once(s, p, w));
             default -> {
                 int pc = below(10) == 0 ? near(40) : 10 * below(3) + 1 + below(3), sitter = near(9) - 1;
-                if (below(40) == 0) due("chairs(" + s + ", " + pc + ", " + sitter + ")", x.chairs(s, pc, sitter), m.chairs(s, pc, sitter));
+                if (below(20) == 0) due("chairs(" + s + ", " + pc + ", " + sitter + ")", x.chairs(s, pc, sitter), m.chairs(s, pc, sitter));
             }
         }
     }

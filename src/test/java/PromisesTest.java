@@ -129,6 +129,10 @@ public final class PromisesTest {
         due("far behind", x.sitters(0, Integer.MAX_VALUE, 8), 0);
         due("ahead of it", x.sitters(0, -1, 8), 0);
         due("hours 0 end it", x.sitters(0, 1, 8), 2);
+        SetAgain y = new SetAgain();
+        fill(y, 0, 9, 9, 9, 9, 8, 8, 8, 8);
+        fill(y, 0, 7, 7, 7, 7, 6, 6, 6);
+        due("what stood behind its end is not there", y.sitters(0, 0, 8), 1);
         due("first", x.of(1, 0), 1);
         due("second", x.of(1, 1), 2);
         due("third", x.of(1, 2), 3);
@@ -248,6 +252,9 @@ public final class PromisesTest {
         due("a byte above 127", laws(x, "d" + (char) 200), -101);
         due("120 bytes", laws(x, "1+".repeat(60)), -220);
         due("119 bytes", laws(x, "1+".repeat(59) + "1"), 1);
+        x = with(20, 6);
+        due("the last of 30 lines", laws(x, "0?1;".repeat(29) + "-1+d"), 1);
+        due("at 24", x.loss(0, 0, 24), 3);
     }
 
     private static void loss() {
@@ -328,6 +335,11 @@ public final class PromisesTest {
         due("two of three", x.best(0, 0, 0), 20);
         due("all losses", x.best(0, 0, 1), 80);
         due("least worst by the same two", x.best(0, 0, 2), 15);
+        SetAgain y = with(60, 3);
+        fill(y, 0, 0);
+        due("60", y.best(0, 0, 0), 60);
+        due("60", y.best(0, 0, 1), 0);
+        due("60", y.best(0, 0, 2), 60);
         x.mend(0, 3, 0);
         x.mend(0, 4, 0);
         x.mend(1, 3, 0);
@@ -370,6 +382,11 @@ public final class PromisesTest {
         due("of no weight", x.middle(0, 0), 10);
         fill(x, 0, 1, 2);
         due("of no weight", x.middle(0, 0), 20);
+        x = with(60, 3, 0, 2);
+        fill(x, 0, 0, 1);
+        due("60", x.middle(0, 0), 60);
+        fill(x, 0, 0, 1, 1);
+        due("0", x.middle(0, 0), 0);
     }
 
     private static void shifts() {
@@ -401,6 +418,14 @@ public final class PromisesTest {
         due("second", x.shifts(0, 0, 1), 40);
         due("nobody sits", x.shifts(0, 0, 2), 13);
         due("last", x.shifts(0, 0, 3), 10);
+        SetAgain y = with(60, 12, 0, 12);
+        fill(y, 0, 0, 1, 0);
+        due("to 60 and 0", y.shifts(0, 0, -1), 150);
+        due("60", y.shifts(0, 0, 0), 60);
+        due("0", y.shifts(0, 0, 1), 0);
+        due("60", y.shifts(0, 0, 2), 60);
+        fill(y, 0, 1);
+        due("behind a longer one", y.shifts(0, 0, -1), 30);
         fill(x, 1);
         due("no shifts", x.shifts(1, 0, -1), 0);
         due("no shifts", x.shifts(1, 0, 0), -2);
@@ -431,6 +456,12 @@ public final class PromisesTest {
         x.mend(0, 9, 8);
         due("of like ones none", x.once(0, 0, 1), -2);
         due("of like ones none", x.once(0, 0, 0), 160);
+        SetAgain y = with(60, 8, 0, 8);
+        fill(y, 0, 0);
+        due("to 60", y.once(0, 0, 2), 60);
+        fill(y, 0, 1);
+        due("to 0", y.once(0, 0, 2), 0);
+        due("to 0", y.once(0, 0, 0), 30);
         fill(x, 0);
         due("no shifts", x.once(0, 0, 0), 0);
         due("no shifts", x.once(0, 0, 1), -2);
@@ -491,6 +522,12 @@ public final class PromisesTest {
         due("its own near stays", x.of(1, 6), 0);
         x.mend(1, 6, 60);
         due("whatever its near is", x.pays(0, 1, 1), 240);
+        SetAgain y = with(60, 8);
+        y.mend(0, 4, 0);
+        for (int part = 0; part < 3; part++) y.set(part, 0);
+        fill(y, 0, 0);
+        due("only from 60 off nothing is turned", y.pays(0, 0, 0), 60);
+        due("which costs nothing", y.pays(0, 0, 1), 0);
     }
 
     private static void memories() {
@@ -569,6 +606,14 @@ public final class PromisesTest {
         due("three chairs", x.chairs(0, 3, 1), 1);
         due("three chairs", x.chairs(0, 3, 2), 2);
         due("three chairs", x.chairs(0, 3, 4), 1);
+        SetAgain y = with(10, 8, 20, 8, 30, 8);
+        fill(y, 0, 2, 1, 0);
+        due("two of three", y.chairs(0, 2, -1), 80);
+        due("of like ones the first: 0 with 1", y.chairs(0, 2, 1), 0);
+        due("of like ones the first: 2 alone", y.chairs(0, 2, 2), 1);
+        y = with(60, 8, 0, 8);
+        fill(y, 0, 0, 1);
+        due("at 60 and 0", y.chairs(0, 2, -1), 0);
         x.mend(0, 8, 3);
         due("slips are left out", x.chairs(0, 3, -1), 2);
         x.mend(1, 1, 10);
@@ -671,6 +716,11 @@ public final class PromisesTest {
         due("the second", x.judge(1, 0), 1);
         fill(x, 1, -2);
         due("-2 is seen", x.judge(1, 0), 0);
+        SetAgain y = with(10, 8);
+        fill(y, 0, -1, 0);
+        fill(y, 1, 30, 10);
+        due("from how it stands", y.judge(1, 0), -2);
+        due("and again", y.judge(1, 0), -2);
         fill(x, 1);
         due("nothing seen", x.judge(1, 0), -2);
         int[] none = new int[30], seen = new int[30];
@@ -855,6 +905,21 @@ public final class PromisesTest {
         for (int i = 39; i >= 0; i--) due("redo", x.redo(), i);
         due("none", x.redo(), -5);
         due("all again", x.of(0, 1), 45);
+        unlikeChanges();
+    }
+
+    /** 44 changes of two numbers by turns: the 40 latest go back and forth one by one. */
+    private static void unlikeChanges() {
+        SetAgain x = with(0, 2, 50, 1);
+        for (int i = 1; i <= 44; i++) x.mend(0, i % 2, i);
+        for (int i = 44; i > 4; i--) {
+            due("undo", x.undo(), i - 5);
+            due("its number", x.of(0, i % 2), i - 2);
+        }
+        for (int i = 5; i <= 44; i++) {
+            due("redo", x.redo(), 44 - i);
+            due("its number", x.of(0, i % 2), i);
+        }
     }
 
     private static void bodies() {
