@@ -164,13 +164,14 @@ public final class SetAgain {
     }
 
     public int stands(int shelf, int part, int k) {
-        if (!isShelf(shelf) || !isPart(part) || k < 0 || k > WEEK) {
+        if (!isShelf(shelf) || !isPart(part) || k < 0) {
             return BAD;
         }
         int refusal = readWeek(shelf);
         if (refusal != 0) {
             return refusal;
         }
+        // No other bound: only by a week can k be too large.
         if (k > week.length) {
             return BAD;
         }

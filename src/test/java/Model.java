@@ -311,7 +311,7 @@ final class Model {
     }
 
     int stands(int shelf, int part, int k) {
-        if (wrong(shelf, part) || k < 0 || k > 21) return BAD;
+        if (wrong(shelf, part) || k < 0) return BAD;
         if (refusal(shelf) != 0) return refusal(shelf);
         int[] week = read(shelf);
         return k > week.length ? BAD : new Lived().over(Arrays.copyOf(week, k)).at[part];

@@ -493,6 +493,14 @@ public final class PromisesTest {
         refused("stands", x, x.stands(6, 0, 0), x.stands(0, 0, 0), x.stands(4, 0, 0), x.stands(5, 0, 0));
         due("no part", x.stands(0, 3, 0), -1);
         due("k -1", x.stands(0, 0, -1), -1);
+        for (int k : new int[] {21, 22, 61, 237831912, Integer.MAX_VALUE}) {
+            due("nothing by which k were too large, " + k, x.stands(0, 0, k), -11);
+            due("a desk by which k were too large, " + k, x.stands(4, 0, k), -12);
+            due("shorts by which k were too large, " + k, x.stands(5, 0, k), -12);
+            due("no shelf, nor k", x.stands(6, 0, k), -1);
+            due("no part, nor k", x.stands(0, 3, k), -1);
+        }
+        due("k below 0 ahead of -12", x.stands(4, 0, -1), -1);
         x.mend(0, 8, 3);
         fill(x, 0, -1, 0, -1, -1, -1, -1);
         int[] stood = {30, 27, 7, 4, 1, 0, 0};
@@ -502,6 +510,10 @@ public final class PromisesTest {
         fill(x, 0, new int[25]);
         due("21 at most", x.stands(0, 0, 21), 7);
         due("22", x.stands(0, 0, 22), -1);
+        due("far too many", x.stands(0, 0, Integer.MAX_VALUE), -1);
+        fill(x, 0);
+        due("behind no shifts", x.stands(0, 0, 0), 30);
+        due("no shifts", x.stands(0, 0, 1), -1);
         due("nothing is done", x.of(0, 11), 30);
     }
 
