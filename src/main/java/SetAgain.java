@@ -524,7 +524,7 @@ public final class SetAgain {
             if (number >= PARTS) {
                 return -1;
             }
-            return (what == SLIPS ? SLIPS_AT : PRICES_AT) + number;
+            return (what == PRICE ? PRICES_AT : SLIPS_AT) + number;
         }
 
         int comes(int first, int second, int third, int hours) {

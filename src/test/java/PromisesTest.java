@@ -51,25 +51,9 @@ public final class PromisesTest {
         System.out.println("promise " + promise + ": " + what + " answered " + got + ", due is " + want);
     }
 
-    private static SetAgain with(int... wantsAndHours) {
-        SetAgain x = new SetAgain();
-        for (int i = 0; i < wantsAndHours.length; i += 2) x.sitter(wantsAndHours[i], wantsAndHours[i + 1]);
-        return x;
-    }
-
-    private static void fill(SetAgain x, int shelf, int... v) {
-        x.row(shelf, 0, v.length);
-        for (int i = 0; i < v.length; i++) x.put(shelf, i, v[i]);
-    }
-
-    private static int laws(SetAgain x, String text) {
-        for (int i = 0; i < text.length(); i++) x.feed(text.charAt(i));
-        return x.law();
-    }
-
     /** Shelf 4 holds a desk, 5 shorts: no rows of bytes. */
     private static SetAgain odd() {
-        SetAgain x = with(10, 8);
+        SetAgain x = Made.with(10, 8);
         x.body(0);
         x.keep(4, 0);
         x.row(5, 1, 4);
@@ -122,7 +106,7 @@ public final class PromisesTest {
         due("missing", x.sitters(0, 0, 1), 0);
         due("a desk", x.sitters(4, 0, 1), -12);
         due("shorts", x.sitters(5, 0, 1), -12);
-        fill(x, 0, 9, 1, 2, 3, 4, 60, 0, 60, 12, 5, 5, 5, 0, 5, 5);
+        Made.fill(x, 0, 9, 1, 2, 3, 4, 60, 0, 60, 12, 5, 5, 5, 0, 5, 5);
         due("ended within a four", x.sitters(0, 13, 1), 0);
         due("at place 12, within a four", x.sitters(0, 12, 1), 0);
         due("behind its end", x.sitters(0, 15, 1), 0);
@@ -130,8 +114,8 @@ public final class PromisesTest {
         due("ahead of it", x.sitters(0, -1, 8), 0);
         due("hours 0 end it", x.sitters(0, 1, 8), 2);
         SetAgain y = new SetAgain();
-        fill(y, 0, 9, 9, 9, 9, 8, 8, 8, 8);
-        fill(y, 0, 7, 7, 7, 7, 6, 6, 6);
+        Made.fill(y, 0, 9, 9, 9, 9, 8, 8, 8, 8);
+        Made.fill(y, 0, 7, 7, 7, 7, 6, 6, 6);
         due("what stood behind its end is not there", y.sitters(0, 0, 8), 1);
         due("first", x.of(1, 0), 1);
         due("second", x.of(1, 1), 2);
@@ -141,13 +125,13 @@ public final class PromisesTest {
         due("its third", x.of(2, 2), 60);
         due("up", x.of(2, 3), 1);
         due("told one", x.sitters(0, 1, 1), 1);
-        fill(x, 1, 61, 1, 1, 1);
+        Made.fill(x, 1, 61, 1, 1, 1);
         due("want 61", x.sitters(1, 0, 1), 0);
-        fill(x, 1, 1, -1, 1, 1);
+        Made.fill(x, 1, 1, -1, 1, 1);
         due("want -1", x.sitters(1, 0, 1), 0);
-        fill(x, 1, 1, 1, 1, 13);
+        Made.fill(x, 1, 1, 1, 1, 13);
         due("hours 13", x.sitters(1, 0, 1), 0);
-        fill(x, 1, 1, 1, 1, 1, 2, 2, 2, 2, 3, 3, 3, 3, 4, 4, 4, 4, 5, 5, 5, 5);
+        Made.fill(x, 1, 1, 1, 1, 1, 2, 2, 2, 2, 3, 3, 3, 3, 4, 4, 4, 4, 5, 5, 5, 5);
         due("until full", x.sitters(1, 0, 8), 4);
         due("full", x.sitters(1, 0, 8), 0);
         due("count", x.count(0), 8);
@@ -155,7 +139,7 @@ public final class PromisesTest {
 
     private static void mendAndOf() {
         promise = 4;
-        SetAgain x = with(10, 8, 20, 6);
+        SetAgain x = Made.with(10, 8, 20, 6);
         int[] was = {20, 20, 20, 1, 1, 6, 0, 0};
         int[] most = {60, 60, 60, 9, 9, 12, 60, 12};
         for (int what = 0; what < 8; what++) {
@@ -220,20 +204,20 @@ public final class PromisesTest {
             18, 1, 9999, 9999, 1};
         SetAgain x = new SetAgain();
         for (int i = 0; i < laws.length; i++) {
-            if (i % 20 == 0) x = with(1, 1, 20, 6);
+            if (i % 20 == 0) x = Made.with(1, 1, 20, 6);
             boolean text = !laws[i].equals("1=1=");
-            due(laws[i], laws(x, laws[i]), text ? 1 : -103);
+            due(laws[i], Made.laws(x, laws[i]), text ? 1 : -103);
             due("the tape", x.count(1), 0);
             due("loss by " + laws[i], x.loss(1, 2, 23), i == 44 ? Math.max(0, Math.min(9999, 9999 * 9999 * 9999)) : text ? due[i] : Math.max(0, Math.min(9999, 9999 * 9999 * 9999)));
         }
         faults();
-        x = with(20, 6);
+        x = Made.with(20, 6);
         due("not yet", x.loss(0, 0, 15), 30);
-        due("u", laws(x, "u"), 1);
+        due("u", Made.laws(x, "u"), 1);
         due("as wanted", x.loss(0, 0, 20), 0);
         due("below", x.loss(0, 0, 15), 0);
         due("above", x.loss(0, 0, 21), 1);
-        due("a fault", laws(x, "u?"), -102);
+        due("a fault", Made.laws(x, "u?"), -102);
         due("the law stays", x.loss(0, 0, 21), 1);
         due("the tape is empty", x.count(1), 0);
     }
@@ -246,20 +230,20 @@ public final class PromisesTest {
             3, 0, 2, 0, 2, 0, 2, 2, -1, -1, 0, 7, 6, 6, 8, 6,
             1, 1, 1, 3, 0, 0, 2, -1, 9};
         for (int i = 0; i < texts.length; i++) {
-            due("«" + texts[i] + "»", laws(new SetAgain(), texts[i]), due[i] < 0 ? 1 : -100 - due[i]);
+            due("«" + texts[i] + "»", Made.laws(new SetAgain(), texts[i]), due[i] < 0 ? 1 : -100 - due[i]);
         }
         SetAgain x = new SetAgain();
-        due("a byte above 127", laws(x, "d" + (char) 200), -101);
-        due("120 bytes", laws(x, "1+".repeat(60)), -220);
-        due("119 bytes", laws(x, "1+".repeat(59) + "1"), 1);
-        x = with(20, 6);
-        due("the last of 30 lines", laws(x, "0?1;".repeat(29) + "-1+d"), 1);
+        due("a byte above 127", Made.laws(x, "d" + (char) 200), -101);
+        due("120 bytes", Made.laws(x, "1+".repeat(60)), -220);
+        due("119 bytes", Made.laws(x, "1+".repeat(59) + "1"), 1);
+        x = Made.with(20, 6);
+        due("the last of 30 lines", Made.laws(x, "0?1;".repeat(29) + "-1+d"), 1);
         due("at 24", x.loss(0, 0, 24), 3);
     }
 
     private static void loss() {
         promise = 8;
-        SetAgain x = with(20, 6);
+        SetAgain x = Made.with(20, 6);
         x.mend(0, 3, 2);
         x.mend(0, 4, 5);
         x.mend(0, 1, 40);
@@ -302,16 +286,16 @@ public final class PromisesTest {
         due("bad ahead of -11", x.never(0, 0, 61), -1);
         due("-1", x.never(0, 0, -1), -1);
         x.sitter(20, 6);
-        fill(x, 0, 0, 1, -1, 2, 0);
+        Made.fill(x, 0, 0, 1, -1, 2, 0);
         due("10", x.never(0, 0, 10), 60);
         due("20", x.never(0, 0, 20), 160);
         x.mend(0, 8, 3);
         due("slips are left out", x.never(0, 0, 20), 160);
         int[] long22 = new int[22];
-        fill(x, 0, long22);
+        Made.fill(x, 0, long22);
         due("21 shifts at most", x.never(0, 0, 11), 21 * 8);
         x.sitter(30, 1);
-        fill(x, 0, 2);
+        Made.fill(x, 0, 2);
         due("a sitter that came later sits", x.never(0, 0, 29), 1);
     }
 
@@ -322,21 +306,21 @@ public final class PromisesTest {
         due("what 4", x.best(0, 0, 4), -1);
         due("what -1", x.best(0, 0, -1), -1);
         due("no part", x.best(0, 3, 0), -1);
-        fill(x, 0, -1, 7);
+        Made.fill(x, 0, -1, 7);
         due("nobody sits", x.best(0, 0, 0), -2);
         due("nobody sits", x.best(0, 0, 3), -2);
         x.sitter(20, 8);
-        fill(x, 0, 0, 1);
+        Made.fill(x, 0, 0, 1);
         due("of like ones the least", x.best(0, 0, 0), 10);
         due("all losses", x.best(0, 0, 1), 80);
         due("least worst", x.best(0, 0, 2), 15);
         due("that loss", x.best(0, 0, 3), 40);
-        fill(x, 0, 0, 1, 1);
+        Made.fill(x, 0, 0, 1, 1);
         due("two of three", x.best(0, 0, 0), 20);
         due("all losses", x.best(0, 0, 1), 80);
         due("least worst by the same two", x.best(0, 0, 2), 15);
-        SetAgain y = with(60, 3);
-        fill(y, 0, 0);
+        SetAgain y = Made.with(60, 3);
+        Made.fill(y, 0, 0);
         due("60", y.best(0, 0, 0), 60);
         due("60", y.best(0, 0, 1), 0);
         due("60", y.best(0, 0, 2), 60);
@@ -354,19 +338,19 @@ public final class PromisesTest {
         SetAgain x = odd();
         refused("middle", x, x.middle(6, 0), x.middle(0, 0), x.middle(4, 0), x.middle(5, 0));
         due("no part", x.middle(0, 3), -1);
-        fill(x, 0, 3);
+        Made.fill(x, 0, 3);
         due("nobody sits", x.middle(0, 0), -2);
         x.sitter(20, 8);
         x.sitter(30, 8);
-        fill(x, 0, 0, 1, 2);
+        Made.fill(x, 0, 0, 1, 2);
         due("the middle one", x.middle(0, 0), 20);
-        fill(x, 0, 0, 1);
+        Made.fill(x, 0, 0, 1);
         due("half is enough", x.middle(0, 0), 10);
-        fill(x, 0, 0, 1, 2, 2);
+        Made.fill(x, 0, 0, 1, 2, 2);
         due("half at the second", x.middle(0, 0), 20);
-        fill(x, 0, 0, 1, 2, 2, 2);
+        Made.fill(x, 0, 0, 1, 2, 2, 2);
         due("each shift is as heavy", x.middle(0, 0), 30);
-        fill(x, 0, 0, 1, 2);
+        Made.fill(x, 0, 0, 1, 2);
         x.mend(2, 3, 3);
         due("32 of 64", x.middle(0, 0), 20);
         x.mend(2, 5, 9);
@@ -380,12 +364,12 @@ public final class PromisesTest {
             x.mend(s, 4, 0);
         }
         due("of no weight", x.middle(0, 0), 10);
-        fill(x, 0, 1, 2);
+        Made.fill(x, 0, 1, 2);
         due("of no weight", x.middle(0, 0), 20);
-        x = with(60, 3, 0, 2);
-        fill(x, 0, 0, 1);
+        x = Made.with(60, 3, 0, 2);
+        Made.fill(x, 0, 0, 1);
         due("60", x.middle(0, 0), 60);
-        fill(x, 0, 0, 1, 1);
+        Made.fill(x, 0, 0, 1, 1);
         due("0", x.middle(0, 0), 0);
     }
 
@@ -396,7 +380,7 @@ public final class PromisesTest {
         due("k -2", x.shifts(0, 0, -2), -1);
         due("no part", x.shifts(0, 3, 0), -1);
         x.sitter(40, 2);
-        fill(x, 0, 0, 1, -1, 0);
+        Made.fill(x, 0, 0, 1, -1, 0);
         due("20 + 30 + 30", x.shifts(0, 0, -1), 80);
         due("first", x.shifts(0, 0, 0), 10);
         due("60 lost, or 30 turns and back: the least setting", x.shifts(0, 0, 1), 10);
@@ -418,15 +402,15 @@ public final class PromisesTest {
         due("second", x.shifts(0, 0, 1), 40);
         due("nobody sits", x.shifts(0, 0, 2), 13);
         due("last", x.shifts(0, 0, 3), 10);
-        SetAgain y = with(60, 12, 0, 12);
-        fill(y, 0, 0, 1, 0);
+        SetAgain y = Made.with(60, 12, 0, 12);
+        Made.fill(y, 0, 0, 1, 0);
         due("to 60 and 0", y.shifts(0, 0, -1), 150);
         due("60", y.shifts(0, 0, 0), 60);
         due("0", y.shifts(0, 0, 1), 0);
         due("60", y.shifts(0, 0, 2), 60);
-        fill(y, 0, 1);
+        Made.fill(y, 0, 1);
         due("behind a longer one", y.shifts(0, 0, -1), 30);
-        fill(x, 1);
+        Made.fill(x, 1);
         due("no shifts", x.shifts(1, 0, -1), 0);
         due("no shifts", x.shifts(1, 0, 0), -2);
     }
@@ -439,30 +423,30 @@ public final class PromisesTest {
         due("what -1", x.once(0, 0, -1), -1);
         due("no part", x.once(0, 3, 0), -1);
         x.sitter(30, 8);
-        fill(x, 0, 1, 0, 0);
+        Made.fill(x, 0, 1, 0, 0);
         due("20 turns ahead of the second", x.once(0, 0, 0), 20);
         due("ahead of which", x.once(0, 0, 1), 1);
         due("to what", x.once(0, 0, 2), 10);
-        fill(x, 0, 1, -1, 0);
+        Made.fill(x, 0, 1, -1, 0);
         due("of like ones the first", x.once(0, 0, 1), 1);
-        fill(x, 0, 1, 1);
+        Made.fill(x, 0, 1, 1);
         due("none", x.once(0, 0, 0), 0);
         due("none", x.once(0, 0, 1), -2);
         due("none", x.once(0, 0, 2), -2);
         x.mend(0, 8, 2);
         due("slips of none", x.once(0, 0, 0), 2);
         due("2 ahead of the second", x.once(0, 0, 1), 1);
-        fill(x, 0, 0);
+        Made.fill(x, 0, 0);
         x.mend(0, 9, 8);
         due("of like ones none", x.once(0, 0, 1), -2);
         due("of like ones none", x.once(0, 0, 0), 160);
-        SetAgain y = with(60, 8, 0, 8);
-        fill(y, 0, 0);
+        SetAgain y = Made.with(60, 8, 0, 8);
+        Made.fill(y, 0, 0);
         due("to 60", y.once(0, 0, 2), 60);
-        fill(y, 0, 1);
+        Made.fill(y, 0, 1);
         due("to 0", y.once(0, 0, 2), 0);
         due("to 0", y.once(0, 0, 0), 30);
-        fill(x, 0);
+        Made.fill(x, 0);
         due("no shifts", x.once(0, 0, 0), 0);
         due("no shifts", x.once(0, 0, 1), -2);
     }
@@ -478,7 +462,7 @@ public final class PromisesTest {
         x.mend(1, 0, 16);
         x.mend(0, 9, 4);
         x.mend(2, 8, 1);
-        fill(x, 0, 0, 1, 1, -1, 0);
+        Made.fill(x, 0, 0, 1, 1, -1, 0);
         // 20 each; part 0: 10 -> 16, part 1: near, part 2: 9 -> 15; then near; then back, part 2 from 12.
         due("turns", x.week(0, 0), 60 + 6 + 6 + 6 + 2);
         due("losses", x.week(0, 1), 10 + (10 + 2));
@@ -502,16 +486,16 @@ public final class PromisesTest {
         }
         due("k below 0 ahead of -12", x.stands(4, 0, -1), -1);
         x.mend(0, 8, 3);
-        fill(x, 0, -1, 0, -1, -1, -1, -1);
+        Made.fill(x, 0, -1, 0, -1, -1, -1, -1);
         int[] stood = {30, 27, 7, 4, 1, 0, 0};
         for (int k = 0; k <= 6; k++) due("behind " + k, x.stands(0, 0, k), stood[k]);
         due("not as many", x.stands(0, 0, 7), -1);
         due("another part", x.stands(0, 1, 2), 10);
-        fill(x, 0, new int[25]);
+        Made.fill(x, 0, new int[25]);
         due("21 at most", x.stands(0, 0, 21), 7);
         due("22", x.stands(0, 0, 22), -1);
         due("far too many", x.stands(0, 0, Integer.MAX_VALUE), -1);
-        fill(x, 0);
+        Made.fill(x, 0);
         due("behind no shifts", x.stands(0, 0, 0), 30);
         due("no shifts", x.stands(0, 0, 1), -1);
         due("nothing is done", x.of(0, 11), 30);
@@ -526,7 +510,7 @@ public final class PromisesTest {
         due("what 2", x.pays(0, 0, 2), -1);
         x.sitter(20, 1);
         for (int part = 0; part < 3; part++) x.mend(part, 9, 3);
-        fill(x, 0, 1, 0, 1, 0);
+        Made.fill(x, 0, 1, 0, 1, 0);
         // The second suffers 10 each from 10, which is less than 10 turns at 3; the first of all from 30.
         due("near", x.pays(0, 1, 0), 10);
         due("costs", x.pays(0, 1, 1), 3 * (10 + 60 + 10));
@@ -534,10 +518,10 @@ public final class PromisesTest {
         due("its own near stays", x.of(1, 6), 0);
         x.mend(1, 6, 60);
         due("whatever its near is", x.pays(0, 1, 1), 240);
-        SetAgain y = with(60, 8);
+        SetAgain y = Made.with(60, 8);
         y.mend(0, 4, 0);
         for (int part = 0; part < 3; part++) y.set(part, 0);
-        fill(y, 0, 0);
+        Made.fill(y, 0, 0);
         due("only from 60 off nothing is turned", y.pays(0, 0, 0), 60);
         due("which costs nothing", y.pays(0, 0, 1), 0);
     }
@@ -551,7 +535,7 @@ public final class PromisesTest {
         due("what 2", x.memories(0, 1, 2), -1);
         x.sitter(20, 8);
         x.sitter(30, 8);
-        fill(x, 0, 0, 1, 2, 1);
+        Made.fill(x, 0, 0, 1, 2, 1);
         // Turns: 20, 10, 10, 10 by each of three parts: spared 17, 14 (twice 7), 7.
         due("none", x.memories(0, 0, 0), 0);
         due("none", x.memories(0, 0, 1), 150);
@@ -566,12 +550,12 @@ public final class PromisesTest {
         x.mend(0, 10, 10);
         due("fewest", x.memories(0, 3, 0), 1);
         x.mend(0, 10, 0);
-        fill(x, 0, 1, 2, 1);
+        Made.fill(x, 0, 1, 2, 1);
         x.set(0, 10);
         x.set(1, 10);
         x.set(2, 10);
         due("20 of 30 turns", x.memories(0, 1, 0), 2);
-        fill(x, 0, 2, 1, 0);
+        Made.fill(x, 0, 2, 1, 0);
         x.set(0, 40);
         x.set(1, 40);
         x.set(2, 40);
@@ -585,7 +569,7 @@ public final class PromisesTest {
         promise = 18;
         SetAgain x = odd();
         refused("marked", x, x.marked(6), x.marked(0), x.marked(4), x.marked(5));
-        fill(x, 0, 0);
+        Made.fill(x, 0, 0);
         due("half of 1 is 0", x.marked(0), 60);
         x.mend(0, 9, 5);
         x.mend(1, 9, 4);
@@ -605,7 +589,7 @@ public final class PromisesTest {
         x.sitter(12, 1);
         x.sitter(60, 1);
         x.sitter(42, 1);
-        fill(x, 0, 1, 2, 2, 4, 0);
+        Made.fill(x, 0, 1, 2, 2, 4, 0);
         due("one chair", x.chairs(0, 1, -1), 30 + 4 + 32);
         due("one chair", x.chairs(0, 1, 4), 0);
         due("two chairs", x.chairs(0, 2, -1), 2 + 4);
@@ -618,13 +602,13 @@ public final class PromisesTest {
         due("three chairs", x.chairs(0, 3, 1), 1);
         due("three chairs", x.chairs(0, 3, 2), 2);
         due("three chairs", x.chairs(0, 3, 4), 1);
-        SetAgain y = with(10, 8, 20, 8, 30, 8);
-        fill(y, 0, 2, 1, 0);
+        SetAgain y = Made.with(10, 8, 20, 8, 30, 8);
+        Made.fill(y, 0, 2, 1, 0);
         due("two of three", y.chairs(0, 2, -1), 80);
         due("of like ones the first: 0 with 1", y.chairs(0, 2, 1), 0);
         due("of like ones the first: 2 alone", y.chairs(0, 2, 2), 1);
-        y = with(60, 8, 0, 8);
-        fill(y, 0, 0, 1);
+        y = Made.with(60, 8, 0, 8);
+        Made.fill(y, 0, 0, 1);
         due("at 60 and 0", y.chairs(0, 2, -1), 0);
         x.mend(0, 8, 3);
         due("slips are left out", x.chairs(0, 3, -1), 2);
@@ -642,7 +626,7 @@ public final class PromisesTest {
         x.sitter(50, 8);
         x.mend(0, 9, 2);
         x.mend(1, 8, 1);
-        fill(x, 0, 0, 1, 0);
+        Made.fill(x, 0, 0, 1, 0);
         due("no sitter", x.wilful(0, 2, 0), -2000000000);
         due("no sitter", x.wilful(0, -1, 0), -2000000000);
         due("61", x.wilful(0, 0, 61), -2000000000);
@@ -659,7 +643,7 @@ public final class PromisesTest {
         x.mend(0, 6, 60);
         due("who sets nothing turns 20 each, spares 20 each by that", x.wilful(0, 0, 50), 0);
         due("week as ever", x.week(0, 2), 80);
-        due("one who does not sit", with(5, 5).wilful(0, 0, 5), -2000000000);
+        due("one who does not sit", Made.with(5, 5).wilful(0, 0, 5), -2000000000);
     }
 
     private static void who() {
@@ -671,38 +655,38 @@ public final class PromisesTest {
         due("k 12", x.who(0, 0, 12), -1);
         x.sitter(20, 8);
         x.mend(0, 8, 1);
-        fill(x, 0, -1, 19, 18, -1, 30);
+        Made.fill(x, 0, -1, 19, 18, -1, 30);
         due("a later one is looked at", x.who(0, 0, 4), 0);
         due("it cannot be so", x.who(0, 0, 0), 0);
-        fill(x, 0, -1, 19, 18, -1);
+        Made.fill(x, 0, -1, 19, 18, -1);
         due("any", x.who(0, 0, 0), 1 | 2 | 256);
         due("the second, or he at first and nobody: 18", x.who(0, 0, 1), 2);
         due("nobody", x.who(0, 0, 2), 256);
         due("any", x.who(0, 0, 3), 1 | 2 | 256);
         due("no such shift", x.who(0, 0, 4), -1);
-        fill(x, 0, -1, 18);
+        Made.fill(x, 0, -1, 18);
         due("he must have sat", x.who(0, 0, 0), 2);
         x.mend(1, 6, 3);
-        fill(x, 0, 19, 18, 17);
+        Made.fill(x, 0, 19, 18, 17);
         due("set", x.who(0, 0, 0), 2);
         due("near, or nobody", x.who(0, 0, 1), 2 | 256);
         due("near, or nobody", x.who(0, 0, 2), 2 | 256);
-        fill(x, 0, -2);
+        Made.fill(x, 0, -2);
         due("-2", x.who(0, 0, 0), 0);
-        fill(x, 0, 61);
+        Made.fill(x, 0, 61);
         due("61", x.who(0, 0, 0), 0);
         int[] row = new int[13];
         java.util.Arrays.fill(row, -1);
         row[12] = 60;
-        fill(x, 0, row);
+        Made.fill(x, 0, row);
         due("12 shifts at most", x.who(0, 0, 11), 1 | 2 | 256);
         due("another part does not slip", with60().who(0, 1, 0), 1 | 256);
     }
 
     private static SetAgain with60() {
-        SetAgain x = with(60, 1, 20, 1);
+        SetAgain x = Made.with(60, 1, 20, 1);
         x.set(1, 60);
-        fill(x, 0, 60);
+        Made.fill(x, 0, 60);
         return x;
     }
 
@@ -715,31 +699,31 @@ public final class PromisesTest {
         due("nothing", x.judge(0, 0), -11);
         due("nothing ahead of a desk", x.judge(40, 0), -11);
         due("nothing ahead of a desk", x.judge(4, 0), -11);
-        fill(x, 0, 0, -1, 0, 0);
+        Made.fill(x, 0, 0, -1, 0, 0);
         due("a desk", x.judge(40, 0), -12);
         due("shorts", x.judge(5, 0), -12);
         x.mend(0, 8, 2);
-        fill(x, 1, 8, 6, 8, -1, 33);
+        Made.fill(x, 1, 8, 6, 8, -1, 33);
         due("so, as far as both go", x.judge(1, 0), -2);
         due("another part", x.judge(1, 1), 0);
-        fill(x, 1, 8, 6, 7);
+        Made.fill(x, 1, 8, 6, 7);
         due("the third", x.judge(1, 0), 2);
-        fill(x, 1, -1, 5, 7);
+        Made.fill(x, 1, -1, 5, 7);
         due("the second", x.judge(1, 0), 1);
-        fill(x, 1, -2);
+        Made.fill(x, 1, -2);
         due("-2 is seen", x.judge(1, 0), 0);
-        SetAgain y = with(10, 8);
-        fill(y, 0, -1, 0);
-        fill(y, 1, 30, 10);
+        SetAgain y = Made.with(10, 8);
+        Made.fill(y, 0, -1, 0);
+        Made.fill(y, 1, 30, 10);
         due("from how it stands", y.judge(1, 0), -2);
         due("and again", y.judge(1, 0), -2);
-        fill(x, 1);
+        Made.fill(x, 1);
         due("nothing seen", x.judge(1, 0), -2);
         int[] none = new int[30], seen = new int[30];
         java.util.Arrays.fill(seen, 8);
         seen[21] = 9;
-        fill(x, 0, none);
-        fill(x, 1, seen);
+        Made.fill(x, 0, none);
+        Made.fill(x, 1, seen);
         due("21 shifts", x.judge(1, 0), -2);
         x.put(1, 20, 9);
         due("the 21st", x.judge(1, 0), 20);
@@ -754,7 +738,7 @@ public final class PromisesTest {
         due("what 2", x.drawn(0, 1, 1, 2), -1);
         x.sitter(50, 8);
         x.mend(0, 7, 12);
-        fill(x, 0, 0, -1, 1, 1, 0);
+        Made.fill(x, 0, 0, -1, 1, 1, 0);
         due("always ill", x.drawn(0, 5, 3, 1), 6);
         due("20 turns of 3 parts each week", x.drawn(0, 5, 3, 0), 180);
         x.mend(0, 7, 0);
@@ -769,13 +753,13 @@ public final class PromisesTest {
             if ((z >>> 8) % 12 < 5) ill++;
         }
         due("by draws", x.drawn(0, -77, 20, 1), ill);
-        fill(x, 0);
+        Made.fill(x, 0);
         due("no shifts", x.drawn(0, 5, 20, 0), 0);
     }
 
     private static void sit() {
         promise = 24;
-        SetAgain x = with(10, 2, 14, 1);
+        SetAgain x = Made.with(10, 2, 14, 1);
         due("no sitter", x.sit(2), -1);
         due("no sitter", x.sit(-1), -1);
         x.mend(0, 9, 5);
@@ -817,7 +801,7 @@ public final class PromisesTest {
 
     private static void led() {
         promise = 27;
-        SetAgain x = with(10, 2, 50, 1);
+        SetAgain x = Made.with(10, 2, 50, 1);
         due("what -1", x.led(-1), -1);
         due("what 5", x.led(5), -1);
         x.set(0, 10);
@@ -843,7 +827,7 @@ public final class PromisesTest {
         due("dearer", x.sit(0), 102);
         due("dearest", x.led(3), 102);
         due("its sitter", x.led(4), 0);
-        SetAgain y = with(30, 1, 30, 1);
+        SetAgain y = Made.with(30, 1, 30, 1);
         y.sit(1);
         due("a shift that cost nothing", y.led(3), 0);
         due("is the first such", y.led(4), 1);
@@ -853,7 +837,7 @@ public final class PromisesTest {
 
     private static void images() {
         promise = 28;
-        SetAgain x = with(10, 2, 50, 1);
+        SetAgain x = Made.with(10, 2, 50, 1);
         due("none sat", x.image(), 0);
         x.sit(0);
         due("one", x.image(), 1);
@@ -877,7 +861,7 @@ public final class PromisesTest {
 
     private static void undone() {
         promise = 30;
-        SetAgain x = with(10, 2, 50, 1);
+        SetAgain x = Made.with(10, 2, 50, 1);
         due("none", x.undo(), -5);
         x.mend(0, 0, 10);
         due("the same number is none", x.undo(), -5);
@@ -922,7 +906,7 @@ public final class PromisesTest {
 
     /** 44 changes of two numbers by turns: the 40 latest go back and forth one by one. */
     private static void unlikeChanges() {
-        SetAgain x = with(0, 2, 50, 1);
+        SetAgain x = Made.with(0, 2, 50, 1);
         for (int i = 1; i <= 44; i++) x.mend(0, i % 2, i);
         for (int i = 44; i > 4; i--) {
             due("undo", x.undo(), i - 5);
@@ -999,7 +983,7 @@ public final class PromisesTest {
         due("shelf -1", x.keep(-1, 0), -1);
         due("nothing", x.keep(5, -1), 1);
         due("it is not there", x.taken(5, 0), -11);
-        fill(x, 0, 1);
+        Made.fill(x, 0, 1);
         x.keep(0, -1);
         due("no row either", x.put(0, 0, 1), -11);
     }
@@ -1057,8 +1041,8 @@ public final class PromisesTest {
     private static void shift() {
         promise = 39;
         SetAgain x = odd();
-        fill(x, 0, 1, 2, 3, 4, 5);
-        fill(x, 1, 0, 0, 0);
+        Made.fill(x, 0, 1, 2, 3, 4, 5);
+        Made.fill(x, 1, 0, 0, 0);
         due("shelf", x.shift(6, 0, 0, 0, 1), -1);
         due("shelf", x.shift(0, 0, -1, 0, 1), -1);
         due("nothing", x.shift(2, 0, 0, 0, 1), -11);
