@@ -4,6 +4,8 @@ public final class SetAgain {
 
     // The host's refusals.
     private static final int NOTHING = -11, OTHER_KIND = -12, NO_PLACE = -13, BELOW_ZERO = -14;
+    // Long.MIN_VALUE, by its number, as the language leaves only functions of Long.
+    private static final long NO_ELEMENT = 1L << 63;
 
     private static final int PARTS = 3, TOP = 60, SETTINGS = TOP + 1, SITTERS = 8;
     private static final int WEEK = 21, SEEN = 12, NOBODY = -1;
@@ -350,7 +352,7 @@ public final class SetAgain {
     }
 
     public long element(int shelf, int i) {
-        return refusalAt(shelf, i) != 0 ? Long.MIN_VALUE : shelves[shelf].elements[i];
+        return refusalAt(shelf, i) != 0 ? NO_ELEMENT : shelves[shelf].elements[i];
     }
 
     public int shift(int shelf, int i, int other, int j, int n) {
@@ -1042,8 +1044,8 @@ public final class SetAgain {
         private final int[] weight = new int[SETTINGS];
         private final boolean[] wanted = new boolean[SETTINGS];
         private final int[] ones = new int[SITTERS];
-        // All losses of each group of those that sit at each setting, and the least of them; of none always 0.
-        private final int[] sums = new int[(1 << SITTERS) * SETTINGS];
+        // All losses of each group of those that sit at one setting, and the least of them at any; of none always 0.
+        private final int[] sums = new int[1 << SITTERS];
         private final int[] leasts = new int[1 << SITTERS];
         private final int[] group = new int[CHAIRS];
         private final int[] bestGroup = new int[CHAIRS];
@@ -1136,20 +1138,19 @@ public final class SetAgain {
             }
         }
 
-        /** Each group is a lesser one and its last sitter, so that the lesser is always summed already. */
         private void sumGroups(int part) {
-            for (int i = 0; i < sitting; i++) {
-                for (int mask = 1 << i; mask < 2 << i; mask++) {
-                    sumGroup(part, mask, ones[i], mask - (1 << i));
+            for (int v = 0; v <= TOP; v++) {
+                for (int i = 0; i < sitting; i++) {
+                    sumGroupsUpTo(i, week.times[ones[i]] * chair.lossAt(ones[i], part, v), v == 0);
                 }
             }
         }
 
-        private void sumGroup(int part, int mask, int last, int lesser) {
-            int at = mask * SETTINGS, below = lesser * SETTINGS;
-            for (int v = 0; v <= TOP; v++) {
-                sums[at + v] = sums[below + v] + week.times[last] * chair.lossAt(last, part, v);
-                leasts[mask] = v == 0 ? sums[at] : Math.min(leasts[mask], sums[at + v]);
+        /** Each group is a lesser one and its last sitter, so that the lesser is always summed already. */
+        private void sumGroupsUpTo(int i, int lost, boolean first) {
+            for (int mask = 1 << i; mask < 2 << i; mask++) {
+                sums[mask] = sums[mask - (1 << i)] + lost;
+                leasts[mask] = first ? sums[mask] : Math.min(leasts[mask], sums[mask]);
             }
         }
 
